@@ -8,35 +8,33 @@ final class Due {
     private int wrong = 0;
 
     void equal(String what, long got, long want) {
-        if (got != want) {
+        same(what, Long.toString(got), Long.toString(want));
+    }
+
+    void answers(String what, int want, Call call) {
+        same(what, outcome(call), Integer.toString(want));
+    }
+
+    void refuses(String what, Class<? extends RuntimeException> want, Call call) {
+        same(what, outcome(call), "throws." + want.getSimpleName());
+    }
+
+    void alike(String what, Call got, Call want) {
+        same(what, outcome(got), outcome(want));
+    }
+
+    private void same(String what, String got, String want) {
+        if (!got.equals(want)) {
             wrong++;
             System.out.println(what + " answered " + got + ", due is " + want);
         }
     }
 
-    void answers(String what, int want, Call call) {
-        equal(what, outcome(call), want);
-    }
-
-    void refuses(String what, Class<? extends RuntimeException> want, Call call) {
+    private static String outcome(Call call) {
         try {
-            int got = call.answer();
-            wrong++;
-            System.out.println(what + " answered " + got + ", due is " + want.getSimpleName());
+            return Integer.toString(call.answer());
         } catch (RuntimeException e) {
-            if (e.getClass() != want) {
-                wrong++;
-                System.out.println(what + " threw " + e + ", due is " + want.getSimpleName());
-            }
-        }
-    }
-
-    /** The answer, or a number that stands for the exception's class, which no answer is. */
-    static long outcome(Call call) {
-        try {
-            return call.answer();
-        } catch (RuntimeException e) {
-            return Long.MIN_VALUE + e.getClass().getName().hashCode();
+            return "throws." + e.getClass().getSimpleName();
         }
     }
 
