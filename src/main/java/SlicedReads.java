@@ -67,7 +67,7 @@ public final class SlicedReads {
     private ReadRow spare = new ReadRow(BLOCK_READS);
     private final Archive archive = new Archive();
     private final Encoder encoder = new Encoder();
-    private final Decoder decoder = new Decoder(archive.bytes);
+    private final Decoder decoder = new Decoder();
 
     public SlicedReads() {
         // No slot is ever null, whatever is packed.
@@ -249,7 +249,7 @@ public final class SlicedReads {
             return false;
         }
         int count = archive.bytes[begin];
-        if (count < 1 || count > BLOCK_READS || !decoder.open(begin, archive.rowLength(begin))) {
+        if (count < 1 || count > BLOCK_READS || !decoder.open(archive, begin)) {
             return false;
         }
         int position = archive.bytes[begin + 1];
@@ -582,7 +582,6 @@ public final class SlicedReads {
             }
         }
 
-        @Override
         int choose(long bound, int bit) {
             if (bit == 1) {
                 low += bound;
@@ -601,7 +600,6 @@ public final class SlicedReads {
         }
 
         /** No reads fill the row: even the longest edits of three reads take far less than 255 bytes. */
-        @Override
         void shiftByte() {
             if (length < MAX_BLOCK_BYTES) {
                 block[length] = (int) (low / TOP_BYTE);
@@ -612,21 +610,18 @@ public final class SlicedReads {
     }
 
     private static final class Decoder extends Coder {
-        private final int[] bytes;
+        private final int[] row = new int[MAX_BYTE];
+        private int rowLength = 0;
         private int next = 0;
-        private int rowEnd = 0;
         /** How far the row's bytes, as a number, are above what LOW was when they were written. */
         private long above = 0;
 
-        Decoder(int[] bytes) {
-            this.bytes = bytes;
-        }
-
-        /** Whether the row of the block that begins there can have been written at all. */
-        boolean open(int begin, int rowLength) {
+        /** Takes the row of the whole block that begins there; whether it can have been written at all. */
+        boolean open(Archive archive, int begin) {
             renew();
-            next = begin + HEAD_BYTES;
-            rowEnd = next + rowLength;
+            rowLength = archive.rowLength(begin);
+            System.arraycopy(archive.bytes, begin + HEAD_BYTES, row, 0, rowLength);
+            next = 0;
             above = 0;
             for (int i = 0; i < LOW_BYTES; i++) {
                 shiftByte();
@@ -666,7 +661,6 @@ public final class SlicedReads {
             return true;
         }
 
-        @Override
         int choose(long bound, int bit) {
             if (above < bound) {
                 return 0;
@@ -676,12 +670,8 @@ public final class SlicedReads {
         }
 
         /** Bytes 0 at the row's end were left out, so behind it there are bytes 0. */
-        @Override
         void shiftByte() {
-            int b = 0;
-            if (next < rowEnd && next < bytes.length) {
-                b = bytes[next];
-            }
+            int b = next < rowLength ? row[next] : 0;
             next++;
             above = above * 256 + b;
         }

@@ -22,6 +22,8 @@ public final class UnpackingTest {
         blocksOfReadsThatCannotBe();
         framesThatCannotBe();
         rowsThatCannotBe();
+        bytesThatAreNotThereAnyMore();
+        theLongestReference();
         everyByteMatters();
         thrownRows();
         due.end("UnpackingTest");
@@ -198,6 +200,49 @@ public final class UnpackingTest {
             Arrays.fill(full, 255);
             refused("a row of bytes 255", ModelBlock.framed(1 + length % 3, 2, full));
         }
+    }
+
+    /** What an earlier, longer archive had behind the end of this one does not count. */
+    private static void bytesThatAreNotThereAnyMore() {
+        SlicedReads x = new SlicedReads();
+        x.refer(0, 16);
+        Calls.read(x, 0, Calls.INSERT, 3, Calls.INSERT, 1, Calls.INSERT, 2, Calls.CHANGE, 3, Calls.REMOVE, 9);
+        x.pack();
+        int[] longer = Calls.archive(x);
+        x.clear(false);
+        Calls.read(x, 0, Calls.MATCH, 1);
+        int size = x.pack();
+        due.equal("the second archive is shorter", size < longer.length ? 1 : 0, 1);
+        Calls.overwrite(x, Arrays.copyOf(longer, size));
+        due.refuses("unpack without the last bytes", IllegalArgumentException.class, () -> x.unpack(0));
+        due.refuses("depth without the last bytes", IllegalArgumentException.class, () -> x.depth(0));
+        due.answers("blocks() without the last bytes", 1, x::blocks);
+    }
+
+    private static void theLongestReference() {
+        List<Integer> longest = new ArrayList<>();
+        SlicedReads x = new SlicedReads();
+        for (int i = 0; i < 10; i++) {
+            Blocks.refer(x, longest, 0x1B2D8E47);
+        }
+        for (int i = 0; i < 6; i++) {
+            Calls.read(x, 160, Calls.INSERT, 1, Calls.INSERT, 2, Calls.INSERT, 3, Calls.INSERT, 0);
+        }
+        x.pack();
+        due.answers("unpack at 160", 3, () -> x.unpack(1));
+        List<Integer> beyond = new ArrayList<>(longest);
+        beyond.add(0);
+        ModelRead[] cannotBe = {
+            new ModelRead(160, Calls.CHANGE, 2), new ModelRead(159, Calls.MATCH, 1, Calls.CHANGE, 2),
+            new ModelRead(160, Calls.MATCH, 1), new ModelRead(160, Calls.INSERT, 1, Calls.REMOVE, 1),
+            new ModelRead(161, Calls.INSERT, 1), new ModelRead(140, Calls.MATCH, 21),
+        };
+        for (ModelRead read : cannotBe) {
+            Calls.overwrite(x, ModelBlock.bytesOf(beyond, List.of(read)));
+            due.refuses("unpack of what ends behind 160", IllegalArgumentException.class, () -> x.unpack(0));
+        }
+        Calls.overwrite(x, ModelBlock.bytesOf(beyond, List.of(new ModelRead(140, Calls.MATCH, 20))));
+        due.answers("unpack of what ends at 160", 1, () -> x.unpack(0));
     }
 
     private static void everyByteMatters() {
