@@ -27,6 +27,20 @@ final class Blocks {
         return read.canBe(reference) ? read : new ModelRead(read.position, Calls.INSERT, dice.below(4));
     }
 
+    /** The read with INSERTs behind it whose block, alone, has just so many bytes. */
+    static ModelRead lengthened(List<Integer> reference, ModelRead read, int bytes) {
+        for (int way = 0; way < 12 * 64; way++) {
+            ModelRead longer = read;
+            for (int i = 0; i <= way / 64; i++) {
+                longer = longer.with(Calls.INSERT, (way >> i % 5) & 3);
+            }
+            if (longer.canBe(reference) && ModelBlock.bytesOf(reference, List.of(longer)).length == bytes) {
+                return longer;
+            }
+        }
+        throw new AssertionError("no block of " + bytes + " bytes");
+    }
+
     static int enter(SlicedReads x, ModelRead read) {
         x.start(read.position);
         for (int[] edit : read.edits) {

@@ -11,11 +11,17 @@ import java.util.Map;
  */
 final class ModelBlock {
     private static final BigInteger BYTE = BigInteger.valueOf(256);
+    private static final BigInteger WORD = BigInteger.valueOf(1L << 32);
 
     private final Map<String, Integer> likelihoods = new HashMap<>();
     private BigInteger low = BigInteger.ZERO;
     private long range = 0xFFFFFFFFL;
     private int bytes = 4;
+    /** What LOW and RANGE came to in each decision, before anything was carried or shifted out of them. */
+    final List<Long> lows = new ArrayList<>();
+    final List<Long> ranges = new ArrayList<>();
+    /** For each carry, how many bytes 255 at the row's end it went through. */
+    final List<Integer> carries = new ArrayList<>();
     /** The row that is read, or null when one is made. */
     private final int[] given;
 
@@ -29,6 +35,11 @@ final class ModelBlock {
     }
 
     static int[] rowOf(List<Integer> reference, List<ModelRead> reads, int firstDistance) {
+        return coderOf(reference, reads, firstDistance).row();
+    }
+
+    /** The coder behind its last decision of a block. */
+    static ModelBlock coderOf(List<Integer> reference, List<ModelRead> reads, int firstDistance) {
         ModelBlock coder = new ModelBlock(null);
         int before = reads.get(0).position - firstDistance;
         for (ModelRead read : reads) {
@@ -49,7 +60,7 @@ final class ModelBlock {
             }
             coder.kind(last, "E");
         }
-        return coder.row();
+        return coder;
     }
 
     /** A row with head and check. */
@@ -110,17 +121,29 @@ final class ModelBlock {
     }
 
     private int[] row() {
+        int[] row = wholeRow();
+        return Arrays.copyOf(row, row.length - zeros());
+    }
+
+    /** The row with the bytes 0 at its end. */
+    private int[] wholeRow() {
         int[] row = new int[bytes];
         BigInteger left = low;
         for (int i = bytes - 1; i >= 0; i--) {
             row[i] = left.mod(BYTE).intValue();
             left = left.divide(BYTE);
         }
-        int length = bytes;
-        while (length > 0 && row[length - 1] == 0) {
-            length--;
+        return row;
+    }
+
+    /** How many bytes 0 the row has at its end. */
+    int zeros() {
+        int[] row = wholeRow();
+        int zeros = 0;
+        while (zeros < row.length && row[row.length - 1 - zeros] == 0) {
+            zeros++;
         }
-        return Arrays.copyOf(row, length);
+        return zeros;
     }
 
     private BigInteger givenValue() {
@@ -138,15 +161,29 @@ final class ModelBlock {
         if (coded == 0) {
             range = bound;
         } else {
+            note(bound);
             low = middle;
             range -= bound;
         }
+        ranges.add(range);
         while (range < 1 << 24) {
             low = low.multiply(BYTE);
             range *= 256;
             bytes++;
         }
         return coded;
+    }
+
+    private void note(long bound) {
+        long grown = low.mod(WORD).longValue() + bound;
+        lows.add(grown);
+        if (grown >= 1L << 32) {
+            int through = 0;
+            for (BigInteger row = low.divide(WORD); row.mod(BYTE).intValue() == 255; row = row.divide(BYTE)) {
+                through++;
+            }
+            carries.add(through);
+        }
     }
 
     private int bit(String name, int bit) {
