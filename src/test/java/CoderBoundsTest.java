@@ -110,8 +110,8 @@ public final class CoderBoundsTest {
                 read(76, 0, 12, 1, 3, 0, 7));
         carries(3, new int[] {2, 35, 9, 47, 29, 0, 0, 0, 35, 254, 83, 61, 157, 137}, read(35, 0, 3, 2, 0, 2, 1, 2, 2),
                 read(39, 0, 3, 2, 0, 1, 3));
-        carries(4, new int[] {3, 92, 23, 127, 62, 182, 215, 75, 0, 0, 0, 0, 5, 83, 58, 225, 187, 219, 139, 91, 10, 9, 250, 35,
-            254, 96, 66, 72}, read(92, 3, 11, 2, 2, 2, 2, 2, 0, 0, 3, 1, 1, 3, 44, 1, 1, 0, 1, 2, 3),
+        carries(4, new int[] {3, 92, 23, 127, 62, 182, 215, 75, 0, 0, 0, 0, 5, 83, 58, 225, 187, 219, 139, 91, 10, 9, 250,
+            35, 254, 96, 66, 72}, read(92, 3, 11, 2, 2, 2, 2, 2, 0, 0, 3, 1, 1, 3, 44, 1, 1, 0, 1, 2, 3),
                 read(107, 2, 0, 1, 0, 2, 1, 1, 1, 3, 2, 0, 3, 1, 3, 1, 0), read(111, 2, 2, 2, 0, 2, 2, 1, 2, 3, 10));
     }
 
@@ -181,6 +181,12 @@ public final class CoderBoundsTest {
             packs("REMOVE " + n, read(0, Calls.REMOVE, n, Calls.INSERT, n % 4));
             packs("REMOVE " + n + " at the end", read(160 - n, Calls.INSERT, n % 4, Calls.REMOVE, n));
         }
+        // The highest likelihood of a group and the first ones behind it are not the same.
+        for (int n = 120; n <= 136; n++) {
+            packs("REMOVE " + n + " behind MATCH", read(0, Calls.MATCH, 1, Calls.REMOVE, n, Calls.CHANGE, (n + 3) % 4),
+                    read(0, Calls.MATCH, 2, Calls.CHANGE, 0, Calls.INSERT, 1, Calls.REMOVE, n, Calls.MATCH, 3, Calls.INSERT, 2),
+                    read(n, Calls.MATCH, 1, Calls.INSERT, 3, Calls.MATCH, 2, Calls.REMOVE, 1));
+        }
         packs("REMOVE 160 thrice", read(0, Calls.REMOVE, 160, Calls.INSERT, 0), read(0, Calls.REMOVE, 160, Calls.INSERT, 0),
                 read(0, Calls.REMOVE, 160, Calls.INSERT, 0));
     }
@@ -245,7 +251,8 @@ public final class CoderBoundsTest {
         }
         // The last edit of a read is not before the first one of the next.
         packs("MATCH, then a read", read(4, Calls.MATCH, 1), read(4, Calls.INSERT, 1), read(5, Calls.MATCH, 1));
-        packs("REMOVE, then a read", read(4, Calls.MATCH, 1, Calls.REMOVE, 1), read(4, Calls.CHANGE, 1), read(5, Calls.MATCH, 1));
+        packs("REMOVE, then a read", read(4, Calls.MATCH, 1, Calls.REMOVE, 1), read(4, Calls.CHANGE, 1),
+                read(5, Calls.MATCH, 1));
     }
 
     /** "LIKELIHOODS, all 1024 at first in each block". */

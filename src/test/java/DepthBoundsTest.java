@@ -304,6 +304,16 @@ public final class DepthBoundsTest {
         List<Integer> reference = List.of(0, 1, 2, 3, 0, 1, 2, 3);
         ModelRead over = Blocks.lengthened(reference, new ModelRead(0, Calls.MATCH, 8), size);
         Counted x = new Counted().referring(8);
+        // There were more bytes once, all 255: none of them may be taken for a second byte now.
+        for (int i = 0; i < 4; i++) {
+            x.read(i, Calls.MATCH, 2, Calls.INSERT, i, Calls.REMOVE, 1, Calls.INSERT, 3);
+        }
+        int before = x.pack();
+        due.equal("there were more bytes once", before > size + left ? 1 : 0, 1);
+        for (int k = 0; k < before; k++) {
+            x.corrupt(k, 255);
+        }
+        x.clear(false);
         x.enter(Blocks.lengthened(reference, new ModelRead(0), size + left));
         due.answers("pack() of a longer block", size + left, x::pack);
         x.overwrite(0, ModelBlock.bytesOf(reference, List.of(over)));

@@ -5,7 +5,8 @@ public final class ReferBoundsTest {
     private static final int[] TOO_LARGE = {17, 18, 32, Integer.MAX_VALUE};
 
     private static final Twins NEW = new Twins(due, "of a new object", x -> { });
-    private static final Twins UNDER_WAY = new Twins(due, "with one under way", x -> x.referring(8).begin(2, Calls.MATCH, 3));
+    private static final Twins UNDER_WAY =
+            new Twins(due, "with one under way", x -> x.referring(8).begin(2, Calls.MATCH, 3));
     private static final Twins BEGUN = new Twins(due, "with one just started", x -> x.start(0));
     private static final Twins ONE_READ = new Twins(due, "with a read", x -> x.referring(8).read(2, Calls.MATCH, 3));
     private static final Twins FULL_UNDER_WAY =

@@ -33,6 +33,8 @@ public final class SoundBoundsTest {
         wrongChecks();
         aCheckHasOneForm();
         shorterBlocksBeforeOthers();
+        aBlockIsReadOnItsOwn();
+        theLongestRowThatCanBeSaid();
         allShortRows();
         due.end("SoundBoundsTest");
     }
@@ -45,8 +47,8 @@ public final class SoundBoundsTest {
     private static void holding(Counted x, int reference, int... bytes) {
         x.referring(reference);
         while (x.pack() < bytes.length + 8) {
-            x.read(Math.min(reference, x.reads() % 3), Calls.INSERT, 1, Calls.INSERT, 3, Calls.INSERT, 0, Calls.INSERT, 2, Calls.INSERT, 2,
-                    Calls.INSERT, 1);
+            x.read(Math.min(reference, x.reads() % 3), Calls.INSERT, 1, Calls.INSERT, 3, Calls.INSERT, 0, Calls.INSERT, 2,
+                    Calls.INSERT, 2, Calls.INSERT, 1);
         }
         x.unpack(0);
         x.start(reference);
@@ -145,38 +147,23 @@ public final class SoundBoundsTest {
         return Blocks.lengthened(LONGER, new ModelRead(1), bytes);
     }
 
-    private static int[] blockOf(int bytes) {
-        return ModelBlock.bytesOf(LONGER, List.of(readOf(bytes)));
-    }
-
     /** "its bytes (as many as its third byte says, and five) are all there". */
     private static void itsBytesAreAllThere() {
         int size = 13;
-        Twins.Past past = x -> {
-            x.referring(8).enter(new ModelRead(1, Calls.MATCH, 1, Calls.INSERT, 1));
-            x.pack();
-            x.unpack(0);
-            x.clear(false);
-            x.enter(readOf(size));
-            x.pack();
-        };
-        new Twins(due, "of 13 bytes", past).answers("size()", size, Counted::size);
-        int[] longer = blockOf(size + 1);
-        int[] longest = blockOf(size + 2);
-        int[] shorter = blockOf(size - 1);
-        overwritten(past, "all are there", blockOf(size)).answers("unpack(0)", 1, x -> x.unpack(0));
-        overwritten(past, "the last is missing", Arrays.copyOf(longer, size)).refuses("unpack(0)", UNSOUND, x -> x.unpack(0));
-        overwritten(past, "two are missing", Arrays.copyOf(longest, size)).refuses("unpack(0)", UNSOUND, x -> x.unpack(0));
-        overwritten(past, "one more is there", shorter).answers("unpack(0)", 1, x -> x.unpack(0));
-        overwritten(past, "one more is there", shorter).refuses("unpack(1)", UNSOUND, x -> x.unpack(1));
-        overwritten(past, "one more is there", shorter).answers("blocks()", 2, Counted::blocks);
+        cutTo(size, size, "all are there").answers("unpack(0)", 1, x -> x.unpack(0));
+        cutTo(size, size + 1, "the last is missing").refuses("unpack(0)", UNSOUND, x -> x.unpack(0));
+        cutTo(size, size + 2, "two are missing").refuses("unpack(0)", UNSOUND, x -> x.unpack(0));
+        cutTo(size, size + 1, "the last is missing").answers("blocks()", 1, Counted::blocks);
+        Twins more = cutTo(size, size - 1, "one more is there");
+        more.answers("unpack(0)", 1, x -> x.unpack(0));
+        more.refuses("unpack(1)", UNSOUND, x -> x.unpack(1));
+        more.answers("blocks()", 2, Counted::blocks);
         // From bytes that are just five, and none of them of a row, down to one byte.
         for (int left = 1; left <= 5; left++) {
-            int third = size - 5 - left;
             int begin = size - left;
             new Twins(due, "with " + left + " left", x -> {
-                past.on(x);
-                x.corrupt(2, third);
+                cut(x, size, size);
+                x.corrupt(2, begin - 5);
                 for (int k = begin; k < size; k++) {
                     x.corrupt(k, k == begin ? 1 : 0);
                 }
@@ -184,11 +171,23 @@ public final class SoundBoundsTest {
         }
     }
 
-    private static Twins overwritten(Twins.Past past, String name, int[] bytes) {
-        return new Twins(due, "where " + name, x -> {
-            past.on(x);
-            x.overwrite(0, bytes);
-        });
+    private static Twins cutTo(int size, int bytes, String name) {
+        return new Twins(due, "where " + name, x -> cut(x, size, bytes));
+    }
+
+    /**
+     * An archive of so many bytes, which begins with what it has room for of a block of so many. That block was there
+     * whole before, so that an object that looked behind the archive's end would find the rest of it.
+     */
+    private static void cut(Counted x, int size, int bytes) {
+        x.referring(8).enter(readOf(bytes));
+        x.pack();
+        int[] block = x.archive();
+        x.unpack(0);
+        x.clear(false);
+        x.enter(readOf(size));
+        due.answers("pack()", size, x::pack);
+        x.overwrite(0, Arrays.copyOf(block, Math.min(size, bytes)));
     }
 
     /** "A BLOCK has 1 .. 3 reads". */
@@ -235,13 +234,11 @@ public final class SoundBoundsTest {
 
     /** "how far its position is from that of the read before it (of the first one: 0)". */
     private static void theFirstDistanceIs0() {
-        for (int distance = 0; distance <= 3; distance++) {
-            int[] block = ModelBlock.framed(1, 3 - distance, ModelBlock.rowOf(LONGER, List.of(read(3, Calls.MATCH, 4)), distance));
-            if (distance == 0) {
-                sound("a first distance 0", read(3, Calls.MATCH, 4));
-            } else {
-                refused("a first distance " + distance, block);
-            }
+        ModelRead read = read(3, Calls.MATCH, 4);
+        sound("a first distance 0", read);
+        for (int distance = 1; distance <= 3; distance++) {
+            int[] row = ModelBlock.rowOf(LONGER, List.of(read), distance);
+            refused("a first distance " + distance, ModelBlock.framed(1, 3 - distance, row));
         }
     }
 
@@ -360,6 +357,9 @@ public final class SoundBoundsTest {
             int length = bases;
             Twins some = new Twins(due, "with a reference of " + bases, x -> {
                 holding(x, REFERENCE, block);
+                // That it was sound before does not count, though it was read more than once.
+                due.answers("unpack(0) with the reference before", 1, () -> x.unpack(0));
+                due.answers("unpack(0) with it again", 1, () -> x.unpack(0));
                 x.clear(true);
                 x.referring(length);
             });
@@ -416,7 +416,8 @@ public final class SoundBoundsTest {
             int[] row = ModelBlock.rowOf(LONGER, List.of(each), 0);
             sound("a row without bytes 0 at its end", each);
             for (int more = 1; more <= 5; more++) {
-                refused(more + " bytes 0 at a row's end", ModelBlock.framed(1, each.position, Arrays.copyOf(row, row.length + more)));
+                int[] longer = Arrays.copyOf(row, row.length + more);
+                refused(more + " bytes 0 at a row's end", ModelBlock.framed(1, each.position, longer));
             }
         }
     }
@@ -472,6 +473,55 @@ public final class SoundBoundsTest {
         due.answers("unpack(0) of one read", 1, () -> x.unpack(0));
         due.answers("unpack(1) of two reads", 2, () -> x.unpack(1));
         due.answers("a block that is at a lower position", 1, () -> x.about(0, 0, true));
+    }
+
+    /** What was read before, sound or not, leaves nothing behind: not even where bytes 0 were left out. */
+    private static void aBlockIsReadOnItsOwn() {
+        int[] wrong = new int[24];
+        Arrays.fill(wrong, 255);
+        ModelRead[] reads = {
+            read(39, 3, 73, 1, 3), read(9, 0, 3, 2, 1, 1, 1, 2, 2, 3, 127), read(144, 3, 7, 2, 0, 1, 0), read(79, 2, 0),
+            read(51, 2, 1, 2, 3),
+        };
+        for (ModelRead each : reads) {
+            Counted x = new Counted();
+            holding(x, 160, ModelBlock.framed(3, 2, wrong));
+            due.refuses("unpack(0) of bytes 255", UNSOUND, () -> x.unpack(0));
+            x.overwrite(0, ModelBlock.bytesOf(LONGER, List.of(each)));
+            due.answers("unpack(0) behind it", 1, () -> x.unpack(0));
+            due.answers("position behind it", each.position, () -> x.about(0, 0, true));
+            due.answers("edits behind it", each.edits.size(), () -> x.about(0, 2, true));
+            due.answers("passed over behind it", each.passed(), () -> x.about(0, 3, true));
+        }
+    }
+
+    /** A third byte 255, the most that a byte can say, in an archive that has so many bytes and more. */
+    private static void theLongestRowThatCanBeSaid() {
+        ModelRead[] dear = {
+            read(3, 3, 31, 1, 1, 1, 0, 0, 1, 2, 3, 1, 0, 2, 1, 1, 1, 3, 97, 0, 3, 2, 2, 0, 1),
+            read(10, 3, 20, 1, 3, 1, 0, 3, 45, 0, 2, 1, 2, 3, 33, 0, 8, 2, 1, 3, 1, 2, 2),
+            read(25, 1, 2, 0, 3, 3, 33, 2, 1, 1, 1, 0, 3, 3, 26, 2, 3, 1, 1, 3, 3, 0, 5, 1, 3),
+        };
+        Counted x = new Counted().referring(160);
+        for (int i = 0; i < 24; i++) {
+            x.enter(dear[i / 8]);
+        }
+        due.equal("260 bytes are all there", x.pack() > 260 ? 1 : 0, 1);
+        due.answers("unpack(7)", 3, () -> x.unpack(7));
+        int third = x.at(2);
+        for (int said : new int[] {255, 254}) {
+            x.corrupt(2, said);
+            // The next block begins behind it, and would end far behind the archive.
+            x.corrupt(5 + said + 2, 255);
+            due.answers("blocks() with a third byte " + said, 2, x::blocks);
+            due.refuses("unpack(0) with a third byte " + said, UNSOUND, () -> x.unpack(0));
+            due.refuses("unpack(1) with a third byte " + said, UNSOUND, () -> x.unpack(1));
+            due.refuses("depth(3) with a third byte " + said, UNSOUND, () -> x.depth(3));
+            due.answers("depth(2) with a third byte " + said, 0, () -> x.depth(2));
+        }
+        due.answers("the shelf behind that", 25, () -> x.about(0, 0, true));
+        x.corrupt(2, third);
+        due.answers("unpack(0) as it was", 3, () -> x.unpack(0));
     }
 
     /** Every row of no byte, one byte and two, with a right check: sound just when the model finds it so. */
