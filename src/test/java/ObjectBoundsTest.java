@@ -9,6 +9,7 @@ public final class ObjectBoundsTest {
         aNewObjectIsNewBesideAFullOne();
         the511thAnd512thCallAnswerAsDue();
         refusedCallsAreCalls();
+        lookingChangesNothing();
         laterCallsThrowNothingElse();
         due.end("ObjectBoundsTest");
     }
@@ -106,6 +107,32 @@ public final class ObjectBoundsTest {
         due.answers("call 510, the bases", 3, () -> x.about(0, 1, false));
         due.answers("call 511, the edits", 1, () -> x.about(0, 2, false));
         due.answers("call 512, the last base", 0, () -> x.base(0, 2, false));
+    }
+
+    /** Calls that only answer leave all as it is: the reads, the one under way, the shelf and the archive. */
+    private static void lookingChangesNothing() {
+        Twins some = new Twins(due, "with some of all", x -> {
+            x.referring(24);
+            for (int i = 0; i < 4; i++) {
+                x.read(8 - i, Calls.MATCH, 2 + i, Calls.INSERT, i);
+            }
+            x.pack();
+            x.unpack(1);
+            x.corrupt(1, 9);
+            x.begin(3, Calls.MATCH, 5);
+        });
+        int size = some.one().size();
+        some.looks("reads()", 4, Counted::reads);
+        some.looks("size()", size, Counted::size);
+        some.looks("blocks()", 2, Counted::blocks);
+        some.looks("at(1)", 9, x -> x.at(1));
+        some.looks("about(3, 3, false)", 5, x -> x.about(3, 3, false));
+        some.looks("about(0, 0, true)", 8, x -> x.about(0, 0, true));
+        some.looks("base(0, 2, false)", 0, x -> x.base(0, 2, false));
+        some.looks("base(0, 1, true)", 1, x -> x.base(0, 1, true));
+        some.looks("depth(8)", 0, x -> x.depth(8));
+        some.looks("unpack(1) of what is on the shelf", 1, x -> x.unpack(1));
+        some.looks("start and edits of the same read again", 0, x -> x.begin(3, Calls.MATCH, 5));
     }
 
     /** What calls behind the 512th answer is free, but they throw nothing that the document does not name. */

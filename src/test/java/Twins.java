@@ -41,6 +41,13 @@ final class Twins {
         compare(" behind a refused " + call + ", " + name, tried, one());
     }
 
+    /** A call that is answered, but changes nothing. */
+    void looks(String call, int want, Call asked) {
+        Counted tried = one();
+        due.answers(call + ", " + name, want, () -> asked.on(tried));
+        compare(" behind " + call + ", " + name, tried, one());
+    }
+
     private void compare(String when, Counted tried, Counted plain) {
         look(when, tried, plain);
         underWay(when, tried, plain);
