@@ -184,7 +184,8 @@ public final class CoderBoundsTest {
         // The highest likelihood of a group and the first ones behind it are not the same.
         for (int n = 120; n <= 136; n++) {
             packs("REMOVE " + n + " behind MATCH", read(0, Calls.MATCH, 1, Calls.REMOVE, n, Calls.CHANGE, (n + 3) % 4),
-                    read(0, Calls.MATCH, 2, Calls.CHANGE, 0, Calls.INSERT, 1, Calls.REMOVE, n, Calls.MATCH, 3, Calls.INSERT, 2),
+                    read(0, Calls.MATCH, 2, Calls.CHANGE, 0, Calls.INSERT, 1, Calls.REMOVE, n, Calls.MATCH, 3,
+                            Calls.INSERT, 2),
                     read(n, Calls.MATCH, 1, Calls.INSERT, 3, Calls.MATCH, 2, Calls.REMOVE, 1));
         }
         packs("REMOVE 160 thrice", read(0, Calls.REMOVE, 160, Calls.INSERT, 0), read(0, Calls.REMOVE, 160, Calls.INSERT, 0),
