@@ -2,7 +2,8 @@ import java.util.Arrays;
 
 /**
  * Keeps reads of a long row of bases as what they differ in from a reference, packs them into
- * blocks by a coder that learns how likely each decision is, and reads any block on its own again.
+ * blocks by a coder that learns how likely each decision is, and reads any block on its own again,
+ * refusing all bytes that packing would not have made.
  */
 public final class SlicedReads {
     public static final int NONE = -1;

@@ -21,6 +21,11 @@ final class ModelRead {
         return copy;
     }
 
+    /** The kind of the last edit, -1 when there is none. */
+    int lastKind() {
+        return edits.isEmpty() ? -1 : edits.get(edits.size() - 1)[0];
+    }
+
     int passed() {
         int passed = 0;
         for (int[] edit : edits) {
